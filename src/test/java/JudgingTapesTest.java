@@ -58,6 +58,11 @@ public final class JudgingTapesTest {
         row(x, 3, 0, 1, 0, 1, 2);
         due.is("judge to and fro", x.judge(3, 0, 2), -14);
         due.is("judge, the first of it", x.judge(3, 0, 1), 15);
+        Due.law(x, "way 1 s<9;steps 99");
+        row(x, 3, 0, 1, 0, 1, 0, 1, 0, 1, 0, 1, 0, 1);
+        due.is("judge, more than nine steps", x.judge(3, 0, 4), -20);
+        due.is("judge, just nine", x.judge(3, 2, 4), 1010);
+        Due.law(x, "way 10 s=1");
         row(x, 3, 9, 0, 1, 5, -1);
         due.is("judge, the first not there", x.judge(3, 0, 1), -10);
         due.is("judge from place 1", x.judge(3, 1, 1), 15);

@@ -31,6 +31,9 @@ public final class LotsBlanksTest {
         due.is("parted(11, 99)", x.parted(11, 99), 2);
         due.is("parted(20, 99)", x.parted(20, 99), 2);
         due.is("parted(21, 99)", x.parted(21, 99), -5);
+        Due.law(x, "watch 2");
+        due.is("parted(2, 99), watch 2", x.parted(2, 99), 2);
+        due.is("parted(3, 99), watch 2", x.parted(3, 99), -5);
         Due.law(x, "watch 1");
         due.is("parted(1, 99), watch 1", x.parted(1, 99), -5);
         due.is("parted(0, 99), watch 1", x.parted(0, 99), 0);

@@ -122,11 +122,35 @@ public final class NamesNewsTest {
                 due.is("goes by law " + i + " after a fault", x.goes(0, 1), i);
             }
         }
+        nothingOfFaultyLaws();
         due.is("feed", Due.feed(x, "paper 1"), 7);
         due.is("a seventh law", x.law(), -4);
         due.is("the text stays", x.count(4), 7);
         due.is("goes by the sixth", x.goes(0, 1), 5);
         due.is("count(2)", x.count(2), 6);
+    }
+
+    /** What has been read of laws with a fault is in no law that comes behind them. */
+    private static void nothingOfFaultyLaws() {
+        TuesdayKnew x = Due.names(1, 2);
+        x.join(0, 1, 1);
+        for (int i = 0; i < 40; i++) {
+            Due.law(x, "way 3 a<9;habit 50 " + "a<9&".repeat(20));
+        }
+        due.is("goes after forty faults", x.goes(0, 1), -5);
+        Due.law(x, "paper 1;paper 2;paper 3;paper 4;paper 5;steps 1;steps 2;paper 9;way 7 a=1;way 4 a=0");
+        due.is("goes by the tenth clause", x.goes(0, 1), 4);
+        due.is("goes by the ninth clause", x.goes(1, 0), 7);
+        due.is("habit by none", x.habit(0, 0), 0);
+        Due.law(x, "way 3 a<9;way 3 ");
+        Due.law(x, "habit 5 a=0|a=1&f=0");
+        due.is("goes by no way", x.goes(0, 1), -5);
+        due.is("habit(0, 1)", x.habit(0, 1), 5);
+        due.is("habit(1, 1)", x.habit(1, 1), 0);
+        // As many signs as a text can hold: 23 tests, and what joins them.
+        Due.law(x, "way 1 b=2" + "|b=2".repeat(21) + "|b=1");
+        due.is("goes by the last test", x.goes(0, 1), 1);
+        due.is("goes not by it", x.goes(1, 0), -5);
     }
 
     private static void fault(String text, int place) {
@@ -345,6 +369,53 @@ public final class NamesNewsTest {
         // Two in no time at all.
         x.join(3, 1, 3);
         way(x, 1, 3, 1);
+        longWays();
+    }
+
+    /** One name, 3, is fewer than the three whose bits are less: 0, 1 and 2 tell 3, and 3 tells 4 and 5. */
+    private static void fewestAheadOfLeast() {
+        TuesdayKnew x = Due.names(1, 1, 1, 1, 1, 1);
+        Due.law(x, "way 1 a<9");
+        for (int i = 0; i < 3; i++) {
+            x.news(i, i);
+            x.join(i, 3, 1);
+        }
+        x.join(3, 4, 1);
+        x.join(3, 5, 1);
+        x.join(5, 4, 1);
+        due.is("silent(4, 9), fewest", x.silent(4, 9), 8);
+        due.is("silent(4, 1)", x.silent(4, 1), 0);
+        due.is("silent(3, 9), all three", x.silent(3, 9), 7);
+        due.is("silent(3, 2), the two that come by then", x.silent(3, 2), 3);
+        x.join(0, 4, 1);
+        due.is("silent(4, 9), two", x.silent(4, 9), 9);
+        due.is("silent(4, 1), one", x.silent(4, 1), 1);
+    }
+
+    private static void longWays() {
+        TuesdayKnew x = Due.names(1, 1, 1, 1, 1, 1, 1, 1);
+        int[] row = {6, 2, 5, 0, 7, 1, 4, 3};
+        for (int i = 0; i < 7; i++) {
+            x.join(row[i], row[i + 1], 1);
+        }
+        x.news(6, 0);
+        Due.law(x, "way 5 s=1;way 9 s=2");
+        way(x, 3, row);
+        way(x, 0, 6, 2, 5, 0);
+        // By 9 in one step, sooner than by 10 in two.
+        x.join(6, 5, 2);
+        way(x, 3, 6, 5, 0, 7, 1, 4, 3);
+        // 5 and 9 in two steps, or 9 and 5: 2 is less than 7.
+        x.join(6, 5, 0);
+        x.join(6, 7, 2);
+        x.join(2, 1, 2);
+        way(x, 3, 6, 2, 1, 4, 3);
+        way(x, 1, 6, 2, 1);
+        Due.law(x, "way 5 s=1;way 9 s=2;steps 6");
+        x.join(6, 7, 0);
+        x.join(2, 1, 0);
+        way(x, 3);
+        way(x, 4, 6, 2, 5, 0, 7, 1, 4);
     }
 
     private static void silence() {
@@ -379,5 +450,6 @@ public final class NamesNewsTest {
         x.news(4, 90);
         due.is("silent(4, 89)", x.silent(4, 89), 9);
         due.is("silent(4, 90)", x.silent(4, 90), -5);
+        fewestAheadOfLeast();
     }
 }
