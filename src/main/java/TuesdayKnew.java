@@ -14,8 +14,8 @@ public final class TuesdayKnew {
 
     private static final int TRADE = 0, USUAL = 1, HEARD = 2, KNOWN = 3, LUCKY = 4, HANDED = 5, SPLIT = 6;
     private static final int KINDS = 7, ACTS = 3;
-    /** The KIND above each KIND. */
-    private static final int[] ABOVE = {NONE, TRADE, TRADE, TRADE, USUAL, KNOWN, KNOWN};
+    /** The KIND above each KIND; above TRADE there is none. */
+    private static final int[] ABOVE = {-1, 0, 0, 0, 1, 3, 3};
 
     private final int[] letters = new int[MOST_NAMES];
     private int names;
