@@ -101,6 +101,36 @@ public final class EdgesLawTest {
             count(4) = 0
             law "paper 1" = 0
             """);
+        edge("6 law: THE TEXT, which is empty then: nothing of it stands behind the next", """
+            law "paper 123" = 0
+            law "pape" = -14
+            law "paper" = -15
+            law "paper " = -16
+            law "way 1 a=12&(b=1)" = 1
+            law "way 1 a=1" = 2
+            law "way 1 a=12&" = -21
+            law "way 1 a=12&(b=1)|!a=1" = 3
+            law "way 1 a=12&(b=1)|" = -27
+            law "way 1 a=12&(b=1" = -25
+            law "way 1 a=12&(b=" = -24
+            law "way 1 a=12&(b" = -23
+            law "way 1 a=12&(" = -22
+            law "way 1 " = -16
+            law "paper 1;paper 2" = 4
+            law "paper 1;" = -18
+            """);
+        edge("6 law: a shorter number behind a longer one", """
+            name(1) = 0
+            trade(0, 0, 0, 1, 1) = 0
+            law "paper 123" = 0
+            of(0, 5) = {0}
+            law "paper 1" = 1
+            of(0, 5) = {0 2}
+            law "habit 123 a<99" = 2
+            habit(0, 0) = 100
+            law "habit 1 a<9" = 3
+            habit(0, 0) = 1
+            """);
         edge("6 law: -10 less the FAULT (the one that held holds)", """
             2 times name(1)
             join(0, 1, 1) = 0
@@ -346,12 +376,28 @@ public final class EdgesLawTest {
         fault("1 A ( within 4 others, behind a fourth that is closed", "way 1 !(!(a=1)|!((b=1)))", 17);
     }
 
+    /** A text of 100 bytes: tests joined by &, and behind them its end. */
+    private static String hundred(String end) {
+        int left = 94 - end.length();
+        int longer = left % 4;
+        String text = "way 1 " + "a=01&".repeat(longer) + "a=1&".repeat((left - 5 * longer) / 4) + end;
+        due.is("bytes of " + text, text.length(), 100);
+        return text;
+    }
+
     private static void textOfHundred() {
         String full = "way 1 a=01&a=01&a=01" + "&a=1".repeat(20);
         due.is("a text of 100 bytes", full.length(), 100);
         fits("1 THE TEXT (bytes, 100 at most): all of them are read", full);
         fault("1 The FAULT: the end of 100 bytes", full.substring(0, 96) + "&!a=", 100);
         fault("1 The FAULT: the last of 100 bytes", full.substring(0, 99) + "x", 99);
+        String[] unended = {"", "a", "a=", "!", "!!!!", "(", "(a=1", "((((a=1)))", "a=1|", "a=1|a>", "a=1;", "a=1;p",
+            "a=1;wa", "a=1;way", "a=1;steps", "a=1;watch ", "a=1;way 1", "a=1;way 1 ", "a=1;habit 123 ", "a=1;paper 1;"};
+        for (String end : unended) {
+            fault("1 The FAULT: the end of 100 bytes", hundred(end), 100);
+        }
+        fits("1 THE TEXT (bytes, 100 at most): it ends at the last", hundred("a=1"), hundred("a=11"), hundred("(a=1)"),
+            hundred("!(a=1)"), hundred("a=1;paper 1"), hundred("a=1;watch 123"), hundred("a=1;habit 1 a=1"));
         edge("1 THE TEXT: its last TEST counts", """
             2 times name(1)
             law "habit 1 %sa=1" = 0
@@ -367,6 +413,12 @@ public final class EdgesLawTest {
             habit(0, 0) = 1
             habit(1, 0) = 2
             habit(2, 0) = 4
+            """);
+        edge("1 < or = or >, a number: below 0 and above 99 there is none", """
+            2 times name(1)
+            law "habit 1 a<0;habit 2 !a<0;habit 4 a=0|a<0;habit 8 a<0|a=0;habit 16 a>99;habit 32 a=99|b>0" = 0
+            habit(0, 0) = 14
+            habit(1, 0) = 2
             """);
         edge("1 in way (from a NAME a to a NAME b ..)", """
             3 times name(1)
