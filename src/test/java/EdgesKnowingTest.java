@@ -19,6 +19,7 @@ public final class EdgesKnowingTest {
         knowsHours();
         knowsSteps();
         wayPlaces();
+        wayOfLast();
         wayChoice();
         silentRefusals();
         silentHours();
@@ -193,6 +194,19 @@ public final class EdgesKnowingTest {
             law "way 1 a<9;steps 0" = 3
             way(0) = 0
             way(1, -1) = 0
+            """);
+    }
+
+    private static void wayOfLast() {
+        edge("10 way: from the last of eight to the first", ROW + """
+            law "way 1 a<9" = 0
+            news(0, -1) = 0
+            news(7, 0) = NEVER
+            way(0) = 7 6 5 4 3 2 1 0
+            join(7, 0, 1) = 0
+            way(0) = 7 0
+            way(1) = 7 0 1
+            way(7) = 7
             """);
     }
 
